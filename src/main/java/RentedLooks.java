@@ -500,6 +500,10 @@ public final class RentedLooks {
             return p >= 0 && p < parts;
         }
 
+        private boolean isOfKind(int p, int which) {
+            return hasPart(p) && kind[p] == which;
+        }
+
         private boolean hasScene(int s) {
             return s >= 0 && s < scenes;
         }
@@ -620,23 +624,19 @@ public final class RentedLooks {
             place = NONE;
             skipBlanks();
             for (int n = 0; n < MOST_BYTES && at < text.length && faultNumber == 0; n++) {
-                readClause();
+                readWord();
+                if (text.stands("part", start, at)) {
+                    readPart();
+                } else if (text.stands("clash", start, at)) {
+                    readClash();
+                } else if (text.stands("scene", start, at)) {
+                    readScene();
+                } else {
+                    fail(CANNOT_STAND, start);
+                }
                 skipBlanks();
             }
             return faultNumber;
-        }
-
-        private void readClause() {
-            readWord();
-            if (text.stands("part", start, at)) {
-                readPart();
-            } else if (text.stands("clash", start, at)) {
-                readClash();
-            } else if (text.stands("scene", start, at)) {
-                readScene();
-            } else {
-                fail(CANNOT_STAND, start);
-            }
         }
 
         private void readPart() {
@@ -694,7 +694,7 @@ public final class RentedLooks {
         private void readWord() {
             skipBlanks();
             start = at;
-            while (text.isLetter(at)) {
+            while (at < text.length && text.isLetter(at)) {
                 at++;
             }
         }
@@ -724,7 +724,7 @@ public final class RentedLooks {
             skipBlanks();
             start = at;
             int value = 0;
-            while (text.isFigure(at)) {
+            while (at < text.length && text.isFigure(at)) {
                 // Behind the third figure the value is of no use, and it might run over.
                 if (at - start < MOST_FIGURES) {
                     value = value * 10 + text.byteAt(at) - '0';
@@ -752,7 +752,7 @@ public final class RentedLooks {
         }
 
         private void skipBlanks() {
-            while (text.byteAt(at) == BLANK) {
+            while (at < text.length && text.byteAt(at) == BLANK) {
                 at++;
             }
         }
@@ -838,14 +838,16 @@ public final class RentedLooks {
         }
     }
 
-    /** The LOOKS of the town, in order: each is the SET of its three PARTS. */
+    /** The LOOKS of the town, in order. */
     private static final class Looks {
         // 3 brows, 3 eyes and 4 mouths: no 10 PARTS make more.
         private static final int MOST_LOOKS = 36;
 
         private final Town town;
         private final State state;
-        private final int[] sets = new int[MOST_LOOKS];
+        private final int[] brows = new int[MOST_LOOKS];
+        private final int[] eyes = new int[MOST_LOOKS];
+        private final int[] mouths = new int[MOST_LOOKS];
         private int count;
 
         private Looks(Town town, State state) {
@@ -855,11 +857,13 @@ public final class RentedLooks {
 
         private void build() {
             count = 0;
-            for (int brow = 0; brow < town.parts; brow++) {
-                for (int eyes = 0; eyes < town.parts; eyes++) {
-                    for (int mouth = 0; mouth < town.parts; mouth++) {
-                        if (isLook(brow, eyes, mouth) && count < MOST_LOOKS) {
-                            sets[count] = 1 << brow | 1 << eyes | 1 << mouth;
+            for (int b = 0; b < town.parts; b++) {
+                for (int e = 0; e < town.parts; e++) {
+                    for (int m = 0; m < town.parts; m++) {
+                        if (isLook(b, e, m) && count < MOST_LOOKS) {
+                            brows[count] = b;
+                            eyes[count] = e;
+                            mouths[count] = m;
                             count++;
                         }
                     }
@@ -867,21 +871,29 @@ public final class RentedLooks {
             }
         }
 
-        private boolean isLook(int brow, int eyes, int mouth) {
-            return town.kind[brow] == 0 && town.kind[eyes] == 1 && town.kind[mouth] == 2
-                    && !town.isClash(brow, eyes) && !town.isClash(brow, mouth) && !town.isClash(eyes, mouth);
+        private boolean isLook(int b, int e, int m) {
+            return town.isOfKind(b, 0) && town.isOfKind(e, 1) && town.isOfKind(m, 2)
+                    && !town.isClash(b, e) && !town.isClash(b, m) && !town.isClash(e, m);
         }
 
         private int partsOf(int i) {
-            return i >= 0 && i < count ? sets[i] : 0;
+            return i >= 0 && i < count ? 1 << brows[i] | 1 << eyes[i] | 1 << mouths[i] : 0;
         }
 
         private int widthOf(int i) {
-            return sumOver(partsOf(i), state.widths);
+            return sumOf(i, state.widths);
         }
 
         private int priceOf(int i) {
-            return sumOver(partsOf(i), state.prices);
+            return sumOf(i, state.prices);
+        }
+
+        /** What a row of all PARTS has for the three of a LOOK. */
+        private int sumOf(int i, int[] row) {
+            if (i < 0 || i >= count || row.length < MOST_PARTS) {
+                return 0;
+            }
+            return row[brows[i]] + row[eyes[i]] + row[mouths[i]];
         }
 
         /** The WIDTHS of all LOOKS, were the PART p so wide; as they are for NONE. */
@@ -889,7 +901,7 @@ public final class RentedLooks {
             int set = 0;
             for (int i = 0; i < count; i++) {
                 int w = widthOf(i);
-                if (town.hasPart(p) && has(sets[i], p)) {
+                if (town.hasPart(p) && has(partsOf(i), p)) {
                     w += wide - state.widths[p];
                 }
                 set |= 1 << w;
@@ -901,7 +913,7 @@ public final class RentedLooks {
             if (!town.hasScene(s) || (partsOf(i) & ~free) != 0) {
                 return false;
             }
-            int w = widthOf(i);
+            int w = sumOf(i, state.widths);
             return town.low[s] <= w && w <= town.high[s];
         }
 
@@ -960,12 +972,12 @@ public final class RentedLooks {
                 addSet(h, 0, 0);
             }
             for (int s = 0; s < town.scenes; s++) {
-                dressOneMore(town.hour[s], s, neverFree);
+                dressOneMore(town.hour[s], s, town.freeIn(town.hour[s]) & ~neverFree);
             }
         }
 
         /** Each SET of the hour grows by each LOOK for one SCENE more. */
-        private void dressOneMore(int h, int s, int neverFree) {
+        private void dressOneMore(int h, int s, int free) {
             if (h < 0 || h >= HOURS) {
                 return;
             }
@@ -973,7 +985,6 @@ public final class RentedLooks {
             copyRow(codes[h], codes[SCRATCH]);
             setCount[SCRATCH] = setCount[h];
             setCount[h] = 0;
-            int free = town.freeIn(h) & ~neverFree;
             for (int i = 0; i < looks.count; i++) {
                 if (looks.isFor(i, s, free)) {
                     int parts = looks.partsOf(i);

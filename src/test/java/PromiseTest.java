@@ -167,6 +167,14 @@ public final class PromiseTest {
         faulty("mask 1;", 1, 0);
         faulty("parts brow 0 1 1 1 1;", 1, 0);
         faulty("par", 1, 0);
+        faulty("zart brow 0 1 1 1 1;", 1, 0);
+        faulty("partz brow 0 1 1 1 1;", 1, 0);
+        faulty("part arow 0 1 1 1 1;", 1, 5);
+        faulty("part browz 0 1 1 1 1;", 1, 5);
+        faulty("part brow{", 1, 9);
+        faulty("part brow`", 1, 9);
+        faulty("part brow 0:", 1, 11);
+        faulty("part brow 0/", 1, 11);
         faulty(" Part", 1, 1);
         faulty("paRt brow 0 1 1 1 1;", 1, 0);
         faulty("partX", 1, 4);
@@ -270,6 +278,7 @@ public final class PromiseTest {
         x.see(0, 1);
         x.write(0, 0);
         x.keep(0);
+        x.keep(1);
         int spent = x.told(5);
         due("a faulty town()", Check.town(x, "part"), -11);
         due("fault()", x.fault(), 4);
@@ -296,9 +305,14 @@ public final class PromiseTest {
         due("days", x.told(6), 0);
         due("SEEN", x.told(7), 0);
         due("BOOK", x.told(8), 0);
-        due("WORN", x.part(2, 7), 0);
+        due("SCENES", x.told(1), 4);
+        due("CLASH", x.told(2), 1);
+        for (int p = 0; p < 6; p++) {
+            due("WORN of " + p, x.part(p, 7), 0);
+        }
         due("price(0)", x.part(0, 3), 10);
         due("IMAGES are gone", x.goBack(0), NOT);
+        due("IMAGES are gone", x.goBack(1), NOT);
         due("THE SEED stays", x.seed(0), 77);
         due("an empty town", x.town(), 0);
         due("PARTS", x.told(0), 0);
@@ -416,6 +430,8 @@ public final class PromiseTest {
         due("look(0)", y.look(0, 0), 8 | 2 | 1);
         due("look(1)", y.look(1, 0), 8 | 16 | 1);
         due("look(2)", y.look(2, 0), 8 | 16 | 4);
+        RentedLooks z = in("part eyes 0 1 1 0 1;part mouth 0 1 1 0 1;part brow 0 1 1 0 1;");
+        due("eyes told first", z.look(0, 0), 7);
         // Each two of the three may clash.
         due("brow and eyes", in(THREE + "clash 0 1;").told(9), 0);
         due("brow and mouth", in(THREE + "clash 2 0;").told(9), 0);
@@ -674,6 +690,27 @@ public final class PromiseTest {
         due("the PART", y.grow(0), 3);
         due("its WIDTH", y.grow(1), 1);
         due("four WIDTHS", y.grow(2), 4);
+        // Brows 1 to 7 wide, 3 twice: one of these two takes a WIDTH of its own.
+        RentedLooks z = in("part eyes0 0 1 0 1;part mouth0 0 1 0 1;" + "part brow0 0 1 0 1;".repeat(8));
+        for (int p = 3; p < 10; p++) {
+            z.width(p, p - 2);
+        }
+        z.width(2, 3);
+        due("eight WIDTHS", z.grow(2), 8);
+        due("the lesser WIDTH that none has", z.grow(1), 0);
+        RentedLooks nine = in("part eyes0 0 1 0 1;part eyes0 0 1 0 1;part mouth0 0 1 0 1;" + "part brow0 0 1 0 1;".repeat(7));
+        for (int p = 3; p < 10; p++) {
+            nine.width(p, p - 3);
+        }
+        // 0 to 6 and, by eyes 9 wide, 9 to 15: 7 would be one of the first seven again, 8 would make 8 to 14.
+        due("fourteen WIDTHS", nine.grow(2), 14);
+        due("by the first eyes", nine.grow(0), 0);
+        due("7 wide is the least", nine.grow(1), 7);
+        RentedLooks wide = in("part eyes0 8 1 0 1;part mouth0 0 1 0 1;part brow0 0 1 0 1;part brow0 1 1 0 1;"
+            + "part brow0 2 1 0 1;part brow0 3 1 0 1;part brow0 4 1 0 1;part eyes0 4 1 0 1;");
+        due("0 to 4 by 4 and by 9", wide.grow(2), 10);
+        due("the eyes", wide.grow(0), 0);
+        due("9 wide", wide.grow(1), 9);
     }
 
     // Promise 18
@@ -706,6 +743,9 @@ public final class PromiseTest {
         due("of like ones the first LOOK's first", dear.wedding(0, 1), 1 | 2 | 4 | 8 | 16 | 64);
         dear.price(6, 2);
         due("of like ones the first, then the other", dear.wedding(0, 1), 63);
+        RentedLooks next = in(SIX + "clash 0 4;clash 0 5;clash 3 1;clash 3 2;");
+        due("two LOOKS", next.told(9), 2);
+        due("side by side in the order", next.wedding(0, 1), 63);
         // PARTS of the two may clash with one another.
         due("clashing with the other", in(SIX + "clash 0 3;").wedding(0, 0), 12);
     }
@@ -756,6 +796,14 @@ public final class PromiseTest {
         y.width(1, 9);
         due("as WIDTHS are now: MAY", y.seen(0, 0), 0);
         due("as WIDTHS are now: SURE", y.seen(0, 1), 0);
+        RentedLooks first = in(SIX + "clash 0 4;clash 3 1;clash 3 2;");
+        first.see(0, 6);
+        due("MAY: {0,1,2}, {0,1,5}, {3,4,5}", first.seen(0, 0), 63);
+        due("SURE: the first counts", first.seen(0, 1), 0);
+        RentedLooks two = in(SIX + "clash 0 5;clash 3 1;clash 3 4;");
+        two.see(0, 6);
+        due("MAY: {0,1,2}, {0,2,4}", two.seen(0, 0), 23);
+        due("SURE", two.seen(0, 1), 5);
         // LOOKS without a common PART: nothing is SURE.
         RentedLooks z = in(SIX);
         z.see(0, 6);

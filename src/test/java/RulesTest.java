@@ -6,7 +6,9 @@ import java.lang.reflect.Method;
 import java.lang.reflect.Modifier;
 import java.nio.file.Files;
 import java.nio.file.Path;
+import java.util.Map;
 import java.util.Set;
+import java.util.TreeMap;
 import java.util.TreeSet;
 import java.util.regex.Matcher;
 import java.util.regex.Pattern;
@@ -21,8 +23,10 @@ public final class RulesTest {
         "int drift(int)", "int write(int,int)", "int tear()", "int judge()", "int seed(int)", "int keep(int)",
         "int goBack(int)"));
 
-    private static final String[] BARRED = {"throw", "try", "catch", "synchronized", "assert", "import", "instanceof",
-        "System", "native", "volatile", "finalize", "Thread", "package"};
+    private static final String[] BARRED = {"throw", "try", "catch", "synchronized", "assert", "native", "volatile",
+        "finalize", "Thread", "package"};
+
+    private static final Pattern HEAD = Pattern.compile("(?m)^( {4}| {8})(public|private)[^=;(]*?(\\w+)\\([^=;]*\\) \\{\n");
 
     private static final Check CHECK = new Check("RulesTest");
 
@@ -114,6 +118,7 @@ public final class RulesTest {
         CHECK.holds("no annotation", !bare.contains("@"));
         objectsAreMadeWithTheObject(bare);
         methodsAreShort(bare);
+        callsAreNotDeep(bare);
     }
 
     /** 'new' stands in field initialisers and in the public constructor alone: no call makes anything. */
@@ -128,16 +133,48 @@ public final class RulesTest {
     }
 
     private static void methodsAreShort(String bare) {
-        Matcher heads = Pattern.compile("(?m)^( {4}| {8})(public|private)[^=;]*\\) \\{\n").matcher(bare);
+        Matcher heads = HEAD.matcher(bare);
         int methods = 0;
         while (heads.find()) {
-            int end = bare.indexOf("\n" + heads.group(1) + "}\n", heads.end() - 1);
-            CHECK.holds("an end of " + heads.group().trim(), end > 0);
-            if (end > 0) {
-                CHECK.holds(heads.group().trim() + " is short", bare.substring(heads.end(), end).lines().count() <= 60);
-            }
+            String body = body(bare, heads);
+            CHECK.holds(heads.group().trim() + " has an end", !body.isEmpty());
+            CHECK.holds(heads.group().trim() + " is short", body.lines().count() <= 60);
             methods++;
         }
         CHECK.holds("methods were found", methods > 60);
+    }
+
+    private static String body(String bare, Matcher head) {
+        int end = bare.indexOf("\n" + head.group(1) + "}\n", head.end() - 1);
+        return end < 0 ? "" : bare.substring(head.end(), end);
+    }
+
+    /** By names alone, so two methods of one name count as one: what calls itself is found, too. */
+    private static void callsAreNotDeep(String bare) {
+        Map<String, Set<String>> calls = new TreeMap<>();
+        Matcher heads = HEAD.matcher(bare);
+        while (heads.find()) {
+            Matcher names = Pattern.compile("(\\w+)\\(").matcher(body(bare, heads));
+            Set<String> called = calls.computeIfAbsent(heads.group(3), n -> new TreeSet<>());
+            while (names.find()) {
+                called.add(names.group(1));
+            }
+        }
+        for (String name : calls.keySet()) {
+            int depth = depth(name, calls, 0);
+            CHECK.holds(name + " goes " + depth + " deep", depth <= 8);
+        }
+    }
+
+    private static int depth(String name, Map<String, Set<String>> calls, int above) {
+        int deepest = 0;
+        if (above < 20) {
+            for (String called : calls.get(name)) {
+                if (calls.containsKey(called)) {
+                    deepest = Math.max(deepest, depth(called, calls, above + 1));
+                }
+            }
+        }
+        return deepest + 1;
     }
 }
