@@ -26,6 +26,8 @@ public final class RulesTest {
     private static final String[] BARRED = {"throw", "try", "catch", "synchronized", "assert", "native", "volatile",
         "finalize", "Thread", "package"};
 
+    private static final Set<String> LIBRARY = Set.of("Math.min", "Math.max", "Math.abs", "Integer.bitCount");
+
     private static final Pattern HEAD = Pattern.compile("(?m)^( {4}| {8})(public|private)[^=;(]*?(\\w+)\\([^=;]*\\) \\{\n");
 
     private static final Check CHECK = new Check("RulesTest");
@@ -116,9 +118,24 @@ public final class RulesTest {
         CHECK.holds("no lambda", !bare.contains("->"));
         CHECK.holds("no method reference", !bare.contains("::"));
         CHECK.holds("no annotation", !bare.contains("@"));
+        libraryIsWhatMayBeUsed(bare);
         objectsAreMadeWithTheObject(bare);
         methodsAreShort(bare);
         callsAreNotDeep(bare);
+    }
+
+    private static void libraryIsWhatMayBeUsed(String bare) {
+        Matcher calls = Pattern.compile("\\b[A-Z]\\w*\\.\\w+(?=\\()").matcher(bare);
+        int found = 0;
+        while (calls.find()) {
+            CHECK.holds(calls.group() + " may be used", LIBRARY.contains(calls.group()));
+            found++;
+        }
+        CHECK.holds("calls of the library were found", found > 0);
+        for (String type : new String[] {"float", "double", "Object", "ArrayList", "System", "instanceof", "var"}) {
+            CHECK.holds("no " + type, !Pattern.compile("\\b" + type + "\\b").matcher(bare).find());
+        }
+        CHECK.holds("no text is joined by +", !Pattern.compile("\"\\s*\\+|\\+\\s*\"").matcher(bare).find());
     }
 
     /** 'new' stands in field initialisers and in the public constructor alone: no call makes anything. */
